@@ -331,7 +331,7 @@ public final class PlanCertificates {
      * THE TAPE, with a reader that stops for good at the first number that is not as it should be.
      */
     static final class Tape {
-        final int[] numbers = new int[MOST_ON_TAPE];
+        private final int[] numbers = new int[MOST_ON_TAPE];
         int size;
         /** Where the reader stands: behind a wrong number it never goes. */
         int place;
@@ -413,8 +413,8 @@ public final class PlanCertificates {
         int rules;
         int tables;
         int digest;
-        final int[] low = new int[MOST_VARIABLES];
-        final int[] high = new int[MOST_VARIABLES];
+        private final int[] low = new int[MOST_VARIABLES];
+        private final int[] high = new int[MOST_VARIABLES];
         final int[] cost = new int[MOST_VARIABLES];
         private final int[][] factors = new int[MOST_RULES][MOST_VARIABLES];
         private final int[] right = new int[MOST_RULES];

@@ -4,6 +4,7 @@ public final class PlanTest {
         plans();
         room();
         breaking();
+        oldModelsAreForgotten();
         costs();
         Checks.finish();
     }
@@ -77,6 +78,35 @@ public final class PlanTest {
         PlanCertificates x = Checks.withModel(2, 0, 9, 1, 0, 9, 1, 0, 2, 0, 1, 1, 3, 4, 1, 0, 1, 4, 4);
         Checks.plan(x, 3, 4);
         Checks.due("the second table", x.breaks(0), 201);
+    }
+
+    private static void oldModelsAreForgotten() {
+        PlanCertificates x = new PlanCertificates();
+        for (int i = 0; i < 3; i++) {
+            // Two rules that nothing keeps, and two tables.
+            Checks.put(x, 2, 0, 9, 1, 0, 9, 1, 2, 0, 0, -5, 0, 0, -5,
+                    2, 0, 1, 3, 9, 9, 8, 8, 7, 7, 1, 0, 2, 9, 9, 8, 8);
+            Checks.due("model()", x.model(), 1);
+            Checks.plan(x, 9, 9);
+            Checks.due("breaks(0)", x.breaks(0), 100);
+        }
+        for (int i = 0; i < 3; i++) {
+            Checks.put(x, 2, 0, 9, 1, 0, 9, 1, 0, 1, 0, 1, 1, 9, 9);
+            Checks.due("model()", x.model(), 1);
+            Checks.plan(x, 9, 9);
+            Checks.plan(x, 8, 8);
+            Checks.plan(x, 0, 0);
+            Checks.due("no old rule is broken", x.breaks(0), -1);
+            Checks.due("an old pair does not count", x.breaks(1), 200);
+            Checks.due("(0, 0) is no pair", x.breaks(2), 200);
+        }
+        for (int i = 0; i < 3; i++) {
+            Checks.put(x, 1, 0, 9, 1, 0, 0);
+            Checks.due("model()", x.model(), 1);
+            Checks.plan(x, 8);
+            Checks.due("nothing old is broken", x.breaks(0), -1);
+            Checks.due("no old cost", Checks.cost(x, 0), 8);
+        }
     }
 
     private static void costs() {

@@ -4,6 +4,8 @@ public final class ProofTest {
         noPlan();
         bestPlan();
         noPlanAheadOfBest();
+        byRowZero();
+        oldRowsAreForgotten();
         leastCost();
         leastOfManyRows();
         leastWithoutCosts();
@@ -81,6 +83,40 @@ public final class ProofTest {
         Checks.due("proved()", x.proved(), 0);
         Checks.read(x, 4, 2, 3, 1, 1, 1);
         Checks.due("proved()", x.proved(), 2);
+    }
+
+    private static void byRowZero() {
+        PlanCertificates x = Checks.withModel(1, 0, 5, 1, 1, 0, -1, 0);
+        Checks.begin(x);
+        Checks.read(x, 0, 0);
+        Checks.due("a rule that says 0 <= -1", x.proved(), 1);
+        // Where nothing costs anything, any good plan is the best.
+        x = Checks.withModel(1, 0, 5, 0, 0, 0);
+        Checks.plan(x, 3);
+        Checks.begin(x);
+        Checks.read(x, 8, 0);
+        Checks.dueRow(x, 0, -1, 0);
+        Checks.due("proved()", x.proved(), 2);
+        Checks.due("best()", Checks.best(x), 0);
+        Checks.due("least()", Checks.least(x), Checks.THROWS_STATE);
+    }
+
+    private static void oldRowsAreForgotten() {
+        // 2 <= x and x <= 1 again, and -x <= -2 as a bound of the cost.
+        PlanCertificates x = Checks.withModel(1, 2, 5, 1, 1, 1, 1, 0);
+        Checks.begin(x);
+        Checks.read(x, 0, 0, 2, 0, 4, 2, 0, 1, 1, 1);
+        Checks.due("proved()", x.proved(), 1);
+        Checks.due("least()", Checks.least(x), 2);
+        Checks.due("trim(0)", Checks.trim(x, 0), 1);
+        Checks.due("proved() behind trim", x.proved(), 0);
+        Checks.due("least() behind trim", Checks.least(x), Checks.THROWS_STATE);
+        Checks.begin(x);
+        Checks.due("proved() behind begin", x.proved(), 0);
+        Checks.read(x, 0, 0);
+        Checks.due("least() of one row", Checks.least(x), Checks.THROWS_STATE);
+        Checks.read(x, 1, 0);
+        Checks.due("proved() of two rows", x.proved(), 0);
     }
 
     private static void leastCost() {
