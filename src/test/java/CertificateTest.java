@@ -247,16 +247,21 @@ public final class CertificateTest {
         dueAtLast(x, 8, 9, 5, 0);
     }
 
+    /** Rows of ten numbers on the tape, so often: the calls of an object are counted. */
+    private static int sums(PlanCertificates x, int often) {
+        int[] sum = {4, 4, 0, 1, 0, 1, 0, 1, 0, 1};
+        int[] all = new int[sum.length * often];
+        for (int i = 0; i < all.length; i++) {
+            all[i] = sum[i % sum.length];
+        }
+        return Fill.inTapes(x, all);
+    }
+
     private static void tooManyNumbers() {
         PlanCertificates x = fresh();
-        // The digest and 149 rows of 10 numbers are 1491; 9 more make 1500.
-        int rows = 0;
+        // The digest, a row of two and 149 rows of ten numbers are 1493; 7 more make 1500.
         Checks.read(x, 1, 0);
-        int[] sum = {4, 4, 0, 1, 0, 1, 0, 1, 0, 1};
-        for (int i = 0; i < 149; i++) {
-            rows = Checks.read(x, sum);
-        }
-        Checks.due("rows", rows, 150);
+        Checks.due("rows", sums(x, 149), 150);
         Checks.due("numbers", x.told(7), 1493);
         Checks.due("up to the 1500th", Checks.read(x, 4, 4, 0, 1, 0, 1, 0), 150);
         Checks.due("numbers", x.told(7), 1500);
@@ -271,11 +276,8 @@ public final class CertificateTest {
         x = fresh();
         Checks.read(x, 1, 0, 4, 3, 0, 1, 0, 1, 0, 1, 6, 0, 0, 0, 2, 0, 9, 0, 0);
         Checks.due("numbers", x.told(7), 20);
-        for (int i = 0; i < 148; i++) {
-            Checks.read(x, sum);
-        }
+        Checks.due("rows", sums(x, 148), 153);
         Checks.due("a whole row at the 1500th", x.told(7), 1500);
-        Checks.due("rows", x.told(5), 153);
         Checks.due("no fault", x.fault(0), 0);
         Checks.due("a wrong KIND as the 1501st", Checks.read(x, 10), -19);
         Checks.dueFault(x, 9, 153, 1500);

@@ -19,6 +19,10 @@ final class Checks {
         }
     }
 
+    static void dueText(String call, String got, String want) {
+        due(call + ": " + got + ", due is " + want + "; alike", got.equals(want) ? 1 : 0, 1);
+    }
+
     static void finish() {
         System.out.println(made + " answers, " + wrong + " not as due");
         if (wrong != 0) {
@@ -160,5 +164,54 @@ final class Checks {
             due("number(" + i + ")", number(x, i), numbers[i]);
         }
         due("number behind the last", number(x, numbers.length), THROWS_INDEX);
+    }
+
+    /** All that an object tells, from which it can be seen whether a call has changed it. */
+    static String state(PlanCertificates x) {
+        return x.told(0) + " on the tape; " + stateButTape(x);
+    }
+
+    static String stateButTape(PlanCertificates x) {
+        StringBuilder all = new StringBuilder();
+        int[] told = new int[8];
+        for (int what = 1; what <= 7; what++) {
+            told[what] = x.told(what);
+            all.append(told[what]).append(' ');
+        }
+        all.append("digest ").append(x.digest()).append(" fault");
+        for (int what = 0; what <= 2; what++) {
+            all.append(' ').append(x.fault(what));
+        }
+        all.append(" proved ").append(x.proved()).append(' ').append(best(x)).append(' ').append(least(x));
+        all.append(" plans");
+        for (int plan = 0; plan < told[4]; plan++) {
+            all.append(' ').append(x.breaks(plan)).append(' ').append(cost(x, plan));
+        }
+        all.append(" numbers");
+        for (int i = 0; i < told[7]; i++) {
+            all.append(' ').append(number(x, i));
+        }
+        for (int row = 0; row < told[5]; row++) {
+            all.append(" row ").append(stateOfRow(x, row, told[1], told[4]));
+        }
+        return all.toString();
+    }
+
+    private static String stateOfRow(PlanCertificates x, int row, int variables, int plans) {
+        StringBuilder all = new StringBuilder();
+        for (int v = 0; v < variables; v++) {
+            all.append(row(x, row, v)).append(' ');
+        }
+        for (int what = 8; what <= 13; what++) {
+            all.append(row(x, row, what)).append(' ');
+        }
+        long assumptions = row(x, row, 9);
+        for (int i = 0; i < assumptions; i++) {
+            all.append(assumes(x, row, i)).append(' ');
+        }
+        for (int plan = 0; plan < plans; plan++) {
+            all.append(holds(x, row, plan)).append(' ');
+        }
+        return all.toString();
     }
 }

@@ -1,7 +1,8 @@
 /**
  * All promises: runs of calls, wrong ones among them, are made on an object and on the oracle, and
  * every answer must be the same; what stands at the end must be true of all good plans. The runs are
- * always the same ones.
+ * always the same ones. They go on beyond 512 calls, where the document leaves the answers free:
+ * the class counts no calls, so its answers are right there too.
  */
 public final class OracleTest {
     private static long seed = 20261115L;

@@ -123,14 +123,18 @@ public final class TrimTest {
 
     private static void goesOn() {
         PlanCertificates x = fresh();
-        for (int i = 0; i < 200; i++) {
-            Checks.read(x, 1, 0);
-        }
+        x.begin();
+        Checks.due("200 rows", Fill.rows(x, 200, 1, 0), 200);
         Checks.due("too many rows", Checks.read(x, 1), -19);
         Checks.due("trim(199)", Checks.trim(x, 199), 1);
-        for (int i = 1; i < 200; i++) {
+        for (int i = 1; i < 100; i++) {
             Checks.due("goes on", Checks.read(x, 2, 0), i + 1);
         }
+        int[] more = new int[2 * 100];
+        for (int i = 0; i < more.length; i += 2) {
+            more[i] = 2;
+        }
+        Checks.due("200 rows again", Checks.read(x, more), 200);
         Checks.due("too many again", Checks.read(x, 1), -19);
         Checks.dueFault(x, 9, 200, 401);
         Checks.due("begin() tells what is left", fewer(x), 3);
