@@ -7,6 +7,7 @@ public final class Promise06Breaks {
         theFirstThatIsBroken();
         theLastOfEach();
         greatSums();
+        nothingOfAnOlderModel();
         noSuchPlan();
         unknownChangesNothing();
         Checks.finish();
@@ -159,6 +160,35 @@ public final class Promise06Breaks {
         Checks.due("breaks(1)", x.breaks(1), -1);
         Checks.plan(x, -5, -5, -5, -5, -5, -5, -5, most);
         Checks.due("breaks(2)", x.breaks(2), 7);
+    }
+
+    /** RULES, TABLES, PAIRS and bounds of models before, refused ones too, count for nothing. */
+    private static void nothingOfAnOlderModel() {
+        PlanCertificates x = new PlanCertificates();
+        for (int i = 0; i < 3; i++) {
+            Checks.put(x, 2, 0, 9, 1, 0, 9, 1, 2, 0, 0, -5, 0, 0, -5,
+                    2, 0, 1, 3, 9, 9, 8, 8, 7, 7, 1, 0, 2, 9, 9, 8, 8);
+            Checks.due("two rules that nothing keeps", x.model(), 1);
+            Checks.plan(x, 9, 9);
+            Checks.due("breaks(0)", x.breaks(0), 100);
+        }
+        for (int i = 0; i < 3; i++) {
+            Checks.put(x, 2, 0, 9, 1, 0, 9, 1, 0, 1, 0, 1, 1, 9, 9);
+            Checks.due("no rule, one pair", x.model(), 1);
+            Checks.plan(x, 9, 9);
+            Checks.plan(x, 8, 8);
+            Checks.due("the pair", x.breaks(0), -1);
+            Checks.due("an older pair", x.breaks(1), 200);
+        }
+        for (int i = 0; i < 3; i++) {
+            Checks.put(x, 1, 0, 9, 1, 1, 0, 0, 0);
+            Checks.due("one variable, one rule that all keep", x.model(), 1);
+            Checks.plan(x, 8);
+            Checks.due("breaks(0)", x.breaks(0), -1);
+            Checks.put(x, 1, 0, 0, 0, 1, 0, -1, 9);
+            Checks.due("a refused model", x.model(), -17);
+            Checks.due("breaks(0) behind it", x.breaks(0), -1);
+        }
     }
 
     private static void noSuchPlan() {

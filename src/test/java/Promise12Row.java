@@ -9,6 +9,7 @@ public final class Promise12Row {
         assumptionsOfEach();
         limitOfZero();
         leastLimit();
+        givenUpperLower();
         divideRoundsDown();
         pushRoundsDown();
         tableTakesTheGreatest();
@@ -160,6 +161,36 @@ public final class Promise12Row {
             Checks.due("row", Checks.read(x, rows[i]), 7 + i);
             Checks.due("row(" + (6 + i) + ", 10)", Checks.row(x, 6 + i, 10), has[i]);
             Checks.due("row(" + (6 + i) + ", 11)", Checks.row(x, 6 + i, 11), limits[i]);
+        }
+    }
+
+    /** RULE a; VARIABLE a is at most HIGH; less VARIABLE a is at most less LOW. */
+    private static void givenUpperLower() {
+        int[] low = {-1000, -999, -1, 0, 1, 2, 999, 1000};
+        int[] high = {-1000, -5, 0, 0, 3, 7, 1000, 1000};
+        int[] m = new int[27 + 18];
+        m[0] = 8;
+        m[25] = 2;
+        for (int v = 0; v < 8; v++) {
+            m[1 + 3 * v] = low[v];
+            m[2 + 3 * v] = high[v];
+            m[26 + v] = 100 - v;
+            m[35 + v] = v - 100;
+        }
+        m[34] = 100000;
+        m[43] = -100000;
+        PlanCertificates x = Checks.withModel(m);
+        Checks.begin(x);
+        Checks.read(x, 0, 0, 0, 1);
+        Checks.dueRow(x, 0, 100000, 100, 99, 98, 97, 96, 95, 94, 93);
+        Checks.dueRow(x, 1, -100000, -100, -99, -98, -97, -96, -95, -94, -93);
+        for (int v = 0; v < 8; v++) {
+            long[] one = new long[8];
+            one[v] = 1;
+            Checks.read(x, 1, v, 2, v);
+            Checks.dueRow(x, 2 + 2 * v, high[v], one);
+            one[v] = -1;
+            Checks.dueRow(x, 3 + 2 * v, -low[v], one);
         }
     }
 

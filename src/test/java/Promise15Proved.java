@@ -9,6 +9,7 @@ public final class Promise15Proved {
         withALimitAndAssumptions();
         onlyRowsThatStand();
         theFirstAndTheLastRow();
+        nothingOfAnOlderCertificate();
         Checks.finish();
     }
 
@@ -139,5 +140,23 @@ public final class Promise15Proved {
         Checks.due("by row 199", x.proved(), 1);
         Checks.read(x, 1);
         Checks.due("behind too many", x.proved(), 1);
+    }
+
+    /** Rows of a certificate before, or that trim() has left out, count for nothing. */
+    private static void nothingOfAnOlderCertificate() {
+        PlanCertificates x = Checks.withModel(1, 0, 9, 1, 1, 0, -1, 0);
+        Checks.begin(x);
+        Checks.read(x, 1, 0, 0, 0, 0, 0);
+        Checks.due("by rows 1 and 2", x.proved(), 1);
+        Checks.due("trim(0)", Checks.trim(x, 0), 1);
+        Checks.due("by row 0 alone", x.proved(), 0);
+        Checks.begin(x);
+        Checks.due("without rows", x.proved(), 0);
+        Checks.read(x, 1, 0);
+        Checks.due("by one row", x.proved(), 0);
+        Checks.read(x, 2, 0);
+        Checks.due("by two rows", x.proved(), 0);
+        Checks.read(x, 0);
+        Checks.due("in the midst of the third", x.proved(), 0);
     }
 }
