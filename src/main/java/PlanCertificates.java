@@ -69,8 +69,8 @@ public final class PlanCertificates {
     private static final int IS_SIDE = 10;
     private static final int IS_PLAN = 11;
 
-    /** No row bounds the cost by this: the bounds that rows can prove are nearer to 0. */
-    private static final long NO_BOUND = Long.MIN_VALUE;
+    /** No row bounds the cost by this: a bound is no farther from 0 than the row's right side. */
+    private static final long NO_BOUND = -GREATEST_IN_ROW - 1;
 
     private static final int WHAT_RIGHT = 8;
     private static final int WHAT_ASSUMPTIONS = 9;

@@ -7,6 +7,8 @@ import java.nio.file.Files;
 import java.nio.file.Path;
 import java.util.Set;
 import java.util.TreeSet;
+import java.util.regex.Matcher;
+import java.util.regex.Pattern;
 
 /** The public face, and those rules of LANGUAGE.md that can be seen from the class or its text. */
 public final class FaceTest {
@@ -29,7 +31,10 @@ public final class FaceTest {
         Checks.due("its parameters", constructors[0].getParameterCount(), 0);
         Checks.due("public", constructors[0].getModifiers(), Modifier.PUBLIC);
         inside(face);
-        text();
+        String text = Files.readString(Path.of("src/main/java/PlanCertificates.java"));
+        words(text);
+        methodsAreShort(text);
+        onlyFunctionsOfTheLibrary(text);
         Checks.finish();
     }
 
@@ -102,8 +107,7 @@ public final class FaceTest {
         }
     }
 
-    private static void text() throws IOException {
-        String text = Files.readString(Path.of("src/main/java/PlanCertificates.java"));
+    private static void words(String text) {
         String[] never = {
             "import ", "package ", "catch", "finally", "synchronized", "assert ", "->", "::", "Exact(",
             "java.", "System.", "double", "float", "while", ".equals", ".hashCode", "toString", "try ",
@@ -111,11 +115,22 @@ public final class FaceTest {
         for (String word : never) {
             Checks.due("'" + word + "' in the text", text.indexOf(word) >= 0 ? 1 : 0, 0);
         }
+    }
+
+    private static void methodsAreShort(String text) {
         int length = 0;
         for (String line : text.split("\n")) {
             // Methods stand apart by empty lines, and have none inside.
             length = line.isEmpty() ? 0 : length + 1;
             Checks.due("a method of more than sixty lines", length > 60 ? 1 : 0, 0);
+        }
+    }
+
+    /** Rule 4 lists the static functions of Integer, Long and Math, but no constant of theirs. */
+    private static void onlyFunctionsOfTheLibrary(String text) {
+        Matcher used = Pattern.compile("\\b(Integer|Long|Math)\\.\\w+(\\(?)").matcher(text);
+        while (used.find()) {
+            Checks.due(used.group() + " is a function", used.group(2).length(), 1);
         }
     }
 }

@@ -189,6 +189,14 @@ public final class Promise17Least {
         Checks.begin(x);
         Checks.read(x, 0, 0);
         Checks.due("far below 0", Checks.least(x), -100000);
+        // 4: 0 <= 10^12, 5: -x <= 0, 6: -y <= 0, none of which bounds x + y; 7: -x - y <= 10^12.
+        x = Checks.withModel(2, 0, 0, 1, 0, 0, 1, 1, 0, 0, 1, 0);
+        Checks.begin(x);
+        Checks.read(x, 0, 0, 4, 1, 0, 1000, 4, 1, 1, 1000, 4, 1, 2, 1000, 4, 1, 3, 1000, 2, 0, 2, 1);
+        Checks.due("none before the last row", Checks.least(x), Checks.THROWS_STATE);
+        Checks.read(x, 4, 3, 4, 1, 5, 1, 6, 1);
+        Checks.dueRow(x, 7, 1000000000000L, -1, -1);
+        Checks.due("farthest below 0", Checks.least(x), -1000000000000L);
     }
 
     private static void throwingChangesNothing() {
